@@ -194,7 +194,7 @@ public final class Bestratios {
 
     public int term(int ratio, int k) throws IndexOutOfBoundsException, IllegalArgumentException {
         Fraction number = ratioAt(ratio);
-        requireWithin(k, 0, Integer.MAX_VALUE);
+        requireNotBelow0(k);
         found.takeApart(number);
         return k < found.count ? (int) found.at(k) : REFUSED;
     }
@@ -203,7 +203,7 @@ public final class Bestratios {
             throws IndexOutOfBoundsException, IllegalArgumentException {
         Fraction target = ratioAt(into);
         Fraction number = ratioAt(ratio);
-        requireWithin(k, 0, Integer.MAX_VALUE);
+        requireNotBelow0(k);
         found.takeApart(number);
         if (k >= found.count) {
             return refuse();
@@ -240,20 +240,12 @@ public final class Bestratios {
 
     public int lower(int into, int ratio, int n)
             throws IndexOutOfBoundsException, IllegalArgumentException {
-        Fraction target = ratioAt(into);
-        Fraction number = ratioAt(ratio);
-        requireWithin(n, 1, BOUND_LIMIT);
-        made.becomeNeighbour(number, n, 1);
-        return settle(target);
+        return takeNeighbour(into, ratio, n, 1);
     }
 
     public int upper(int into, int ratio, int n)
             throws IndexOutOfBoundsException, IllegalArgumentException {
-        Fraction target = ratioAt(into);
-        Fraction number = ratioAt(ratio);
-        requireWithin(n, 1, BOUND_LIMIT);
-        made.becomeNeighbour(number, n, -1);
-        return settle(target);
+        return takeNeighbour(into, ratio, n, -1);
     }
 
     public int best(int into, int ratio, int n)
@@ -429,6 +421,12 @@ public final class Bestratios {
         }
     }
 
+    private static void requireNotBelow0(int value) throws IllegalArgumentException {
+        if (value < 0) {
+            throw new IllegalArgumentException("an argument is below 0");
+        }
+    }
+
     private int refuse() {
         refusals++;
         return REFUSED;
@@ -482,6 +480,16 @@ public final class Bestratios {
             }
         }
         return whole;
+    }
+
+    /** lower() by side 1, upper() by side -1. */
+    private int takeNeighbour(int into, int ratio, int n, int side)
+            throws IndexOutOfBoundsException, IllegalArgumentException {
+        Fraction target = ratioAt(into);
+        Fraction number = ratioAt(ratio);
+        requireWithin(n, 1, BOUND_LIMIT);
+        made.becomeNeighbour(number, n, side);
+        return settle(target);
     }
 
     /** Whether of the neighbours that were found the lower one is BEST for the number. */
@@ -539,7 +547,8 @@ public final class Bestratios {
                 if (out.length() > 0) {
                     out.append(' ');
                 }
-                out.append((k & 1) == 0 ? 'R' : 'L');
+                char side = (k & 1) == 0 ? 'R' : 'L';
+                out.append(side);
                 out.append((int) steps);
             }
         }
