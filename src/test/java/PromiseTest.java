@@ -1,3 +1,5 @@
+import java.math.BigInteger;
+
 /** For each promise of the document: ordinary calls, its edges, and wrong arguments. */
 public final class PromiseTest {
     private static final Checks CHECKS = new Checks("PromiseTest");
@@ -35,6 +37,7 @@ public final class PromiseTest {
         orderOfExceptions();
         refusalsAreCounted();
         refusalsChangeNothing();
+        objectsOfTheirOwn();
         CHECKS.end();
     }
 
@@ -704,28 +707,47 @@ public final class PromiseTest {
 
     // Promise 44; ModelTest reckons the checksum of many other states
     private static void digests() {
-        long d = 7846;
+        BigInteger d = BigInteger.valueOf(7846);
         int[] house = {6, 0, 0, 0, 0};
         int[] ratio = {0, 1, 0, 0, 1, -9, 1, 5, 5, 5, 5, 5};
         for (int v : house) {
-            d = d * 31 + v;
+            d = joined(d, v);
         }
         for (int k = 0; k < 6; k++) {
             for (int v : ratio) {
-                d = d * 31 + v;
+                d = joined(d, v);
             }
         }
         for (int k = 0; k < 30; k++) {
-            d = d * 31;
+            d = joined(d, 0);
         }
         for (int k = 0; k < 4; k++) {
-            d = d * 31 + 1;
+            d = joined(d, 1);
         }
         Bestratios x = new Bestratios();
-        due("44: at first", x.digest(), d);
-        due("44: again", x.digest(), d);
+        due("44: too long for 64 bits", d.bitLength() > 64, true);
+        due("44: at first, wrapped around", x.digest(), d.longValue());
+        due("44: again", x.digest(), d.longValue());
         x.knock();
-        due("44: after a knock", x.digest() == d, false);
+        due("44: after a knock", x.digest() == d.longValue(), false);
+    }
+
+    private static BigInteger joined(BigInteger d, int v) {
+        return d.multiply(BigInteger.valueOf(31)).add(BigInteger.valueOf(v));
+    }
+
+    // What is called on one object changes no other one
+    private static void objectsOfTheirOwn() {
+        Bestratios x = new Bestratios();
+        Bestratios y = new Bestratios();
+        long start = y.digest();
+        x.put(0, 1, 2);
+        x.say(7);
+        x.tally(0, 1, 0);
+        x.knock();
+        x.up(1);
+        due("1: no other object changes", y.digest(), start);
+        due("1: nor a new one", new Bestratios().digest(), start);
     }
 
     // All promises with a RATIO: there is no such one
