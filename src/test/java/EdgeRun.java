@@ -55,6 +55,9 @@ final class EdgeRun {
 
     /** Tells the first thing that is wrong, or "". */
     String fault() throws ReflectiveOperationException {
+        if (callsIn(calls) > CALL_LIMIT) {
+            return "more calls than an object is used for";
+        }
         String before = isWatched ? state() : "";
         int refusals = isWatched ? object.house(1) : 0;
         for (String call : calls) {
@@ -123,7 +126,8 @@ final class EdgeRun {
         return bare.trim().split(" ");
     }
 
-    private static String answerOf(String call, Object on) throws ReflectiveOperationException {
+    /** What an object, or a Model, answers to a call, told as a run tells it. */
+    static String answerOf(String call, Object on) throws ReflectiveOperationException {
         String[] words = wordsOf(call);
         Method method = FACE.get(words[0]);
         if (method == null || method.getParameterCount() != words.length - 1) {

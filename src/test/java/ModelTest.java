@@ -6,11 +6,16 @@ import java.util.List;
 
 /**
  * Long runs of calls, always the same ones, on an object and on the Model beside it: each answer
- * and each exception has to be like, and after every act the whole state, told by digest().
+ * and each exception has to be like, and at the end all that can be told of the state. A run has
+ * no more calls than an object is used for.
  */
 public final class ModelTest {
     private static final int RUNS = 1200;
-    private static final int CALLS = 512;
+    private static final int CALL_LIMIT = 512;
+    private static final String[] LAST_CALLS = {
+        "digest", "text 0", "text 1", "text 2", "text 3", "text 4", "text 5", "row", "exact",
+        "rounded", "error", "house 0", "house 1", "house 2", "house 3", "house 4"
+    };
     private static final int[] EDGES = {
         0, 1, -1, 2, -2, 3, 9, 10, 11, 16, 17, 50, 51, 199, 200, 201, 99999, -99999, 100000,
         -100000, 999999999, 1000000000, 1000000001, -1000000000, -1000000001, 500000000,
@@ -44,7 +49,7 @@ public final class ModelTest {
         Model model = new Model();
         // Some runs keep to small numbers, so that like and NEXT ones come up often.
         int size = run % 4;
-        for (int call = 0; call < CALLS; call++) {
+        for (int call = 0; call < CALL_LIMIT - LAST_CALLS.length; call++) {
             Method method = pick(face);
             Object[] args = argumentsOf(method, size);
             Method twin = Model.class.getMethod(method.getName(), method.getParameterTypes());
@@ -57,7 +62,10 @@ public final class ModelTest {
                 return;
             }
         }
-        CHECKS.same("run " + run + " digest", x.digest(), model.digest());
+        for (String call : LAST_CALLS) {
+            CHECKS.same("run " + run + " at its end: " + call, EdgeRun.answerOf(call, x),
+                    EdgeRun.answerOf(call, model));
+        }
     }
 
     private Method pick(List<Method> face) {

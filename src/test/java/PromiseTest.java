@@ -31,7 +31,6 @@ public final class PromiseTest {
         tallying();
         tallyRefusals();
         theWhole();
-        unsoundStates();
         digests();
         wrongRatios();
         orderOfExceptions();
@@ -672,37 +671,6 @@ public final class PromiseTest {
         due("43: sound at the longest", z.isSound(), true);
         due("43: changes nothing", y.text(0) + " " + y.text(4) + " " + y.house(1),
                 "1000000000/999999999 1/1000000000 0");
-    }
-
-    // Promise 43: no call leads to an unsound state, so the test lays one into the object
-    private static void unsoundStates() {
-        try {
-            Bestratios x = with(1, 2, 1, 3);
-            Object ratio = java.lang.reflect.Array.get(field(x, "ratios"), 0);
-            lay(ratio, "bottom", 4);
-            due("43: another ratio", x.isSound(), true);
-            lay(ratio, "top", 2);
-            due("43: a common divisor", x.isSound(), false);
-            lay(ratio, "bottom", 3);
-            due("43: sound again", x.isSound(), true);
-            lay(field(field(x, "tallied"), "difference"), "top", 1);
-            due("43: a wrong ERROR", x.isSound(), false);
-        } catch (ReflectiveOperationException e) {
-            due("43: the state could be laid in", e.toString(), "");
-        }
-    }
-
-    private static Object field(Object of, String name) throws ReflectiveOperationException {
-        java.lang.reflect.Field found = of.getClass().getDeclaredField(name);
-        found.setAccessible(true);
-        return found.get(of);
-    }
-
-    private static void lay(Object into, String name, long value)
-            throws ReflectiveOperationException {
-        java.lang.reflect.Field found = into.getClass().getDeclaredField(name);
-        found.setAccessible(true);
-        found.setLong(into, value);
     }
 
     // Promise 44; ModelTest reckons the checksum of many other states
